@@ -70,6 +70,8 @@ public final class HouseTest {
         due("h1,2,3,4,5,6,7,8;", 9, Due.NONE);
         due("  h 1 , 20 ; v 0 ; s 60   9 ; w 2 30 2 ; ", 3, Due.NONE);
         due("h001,020;", 3, Due.NONE);
+        due("h 1 , 2 , 3 ;", 4, Due.NONE);
+        due("h1 ,2 ,3 ,4;", 5, Due.NONE);
         due("h1;v18;", 2, Due.NONE);
         due("h1;s0 0;v3;w1 0 0;s1 1;", 2, Due.NONE);
         due("h1;s000 009;", 2, Due.NONE);
@@ -79,6 +81,22 @@ public final class HouseTest {
         Due.due("told(4) with no wind told", x.told(4), 9);
         Due.due("told(4) with wind 0", Due.house("h1;v0;").told(4), 0);
         Due.due("told(4) with wind 18", Due.house("h1;v18;").told(4), 18);
+        windOfOneHouseOnly();
+    }
+
+    private static void windOfOneHouseOnly() {
+        FourWalls x = Due.house("h1;v18;");
+        Due.feed(x, "h1;v3;");
+        Due.due("house() with a wind again", x.house(), 2);
+        Due.due("told(4) of the other wind", x.told(4), 3);
+        Due.feed(x, "h1;");
+        Due.due("house() without", x.house(), 2);
+        Due.due("told(4) of no wind", x.told(4), 9);
+        Due.feed(x, "h1;v0;x");
+        Due.due("house() with a fault behind a wind", x.house(), -11);
+        Due.feed(x, "h1;");
+        Due.due("house() without, once more", x.house(), 2);
+        Due.due("told(4) of no wind, once more", x.told(4), 9);
     }
 
     private static void due(String text, int want, int fault) {

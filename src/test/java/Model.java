@@ -11,7 +11,7 @@ final class Model {
     static final int NONE = -1, UNKNOWN = -1000000001, OUTSIDE = -1000000002, NOT = -1000000003, FULL = -1000000004;
 
     /** All of section 2. */
-    private static final class Now implements Cloneable {
+    private static final class Now {
         List<Integer> thick = new ArrayList<>();
         List<Integer> spot = new ArrayList<>();
         int wind;

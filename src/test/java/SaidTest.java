@@ -156,6 +156,9 @@ public final class SaidTest {
         least(x, 2, 3);
         Due.due("leastLiars(2)", x.leastLiars(2), Due.OUTSIDE);
         Due.due("leastLiars(-1)", x.leastLiars(-1), Due.OUTSIDE);
+        FourWalls second = Due.house("h9,0;s10 3;w1 5 0;");
+        second.say(0, 5);
+        least(second, 1, 0);
         FourWalls none = Due.house("h0;w0 0 0;");
         none.say(0, 5);
         least(none, 100, 1);
@@ -189,6 +192,12 @@ public final class SaidTest {
         Due.due("ask() of none", x.ask(), Due.NONE);
         FourWalls alike = Due.house("h3,5;s20 4;s8 2;w2 10 0;w0 5 0;w0 5 0;");
         Due.due("ask(), of like ones the least", alike.ask(), 1);
+        // at E and 5 the tones are heard: sayings 10 and 11, alike but for what is no sound at all
+        FourWalls high = Due.house("h0;s20 8;s20 9;w0 19 0;w0 5 0;w0 0 0;");
+        Due.due("ask() by high tones", high.ask(), 1);
+        // witness 0 says 11 of four births, witness 1 says it of two and 1 of two
+        FourWalls great = Due.house("h0;s20 9;s20 9;w0 0 0;w0 15 0;");
+        Due.due("ask(), a great part of a high tone", great.ask(), 1);
         Due.due("ask() without witnesses", Due.house("h1;s9 9;").ask(), Due.NONE);
         Due.due("ask() of one birth", Due.house("h1;w0 0 0;").ask(), Due.NONE);
         // both part five births with a greatest part of 2

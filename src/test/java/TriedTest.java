@@ -117,6 +117,9 @@ public final class TriedTest {
         Due.due("deaf(1) moved", x.deaf(1), 5);
         x.move(0, 2);
         Due.due("deaf(1) moved to 2", x.deaf(1), 3);
+        FourWalls edge = Due.house("h3;s9 0;s10 0;w0 10 0;");
+        Due.due("deaf(0) one lower than E", edge.deaf(0), 3);
+        Due.due("deaf(1) at E", edge.deaf(1), 2);
         Due.due("deaf(2)", x.deaf(2), Due.UNKNOWN);
         Due.due("deaf(-1)", x.deaf(-1), Due.UNKNOWN);
         Due.due("deaf(0) without witnesses", Due.house("h1,1;s60 0;").deaf(0), 7);
@@ -152,6 +155,10 @@ public final class TriedTest {
         Due.due("ears(0, 6, 9)", y.ears(0, 6, 9), 2);
         Due.due("ears(0, 15, 5)", y.ears(0, 15, 5), 11);
         Due.due("ears(0, 15, 0)", y.ears(0, 15, 0), 5);
+        // made at 0 it comes as 20, 16, 24, made at 1 as -2, 20, 28: one ear at 2 goes ahead of two at 0 and 1
+        FourWalls z = Due.house("h12,0;v18;s20 0;");
+        Due.due("ears(0, 3, 18)", z.ears(0, 3, 18), 4);
+        Due.due("ears(0, 3, 16)", z.ears(0, 3, 16), 2);
     }
 
     // promise 20
@@ -200,6 +207,10 @@ public final class TriedTest {
         Due.due("hides(0, -1, 0)", x.hides(0, -1, 0), Due.UNKNOWN);
         Due.due("hides(0, 0, 3)", x.hides(0, 0, 3), Due.UNKNOWN);
         Due.due("hides(0, 0, -1)", x.hides(0, 0, -1), Due.UNKNOWN);
+        FourWalls edge = Due.house("h3,5;s9 0;s10 0;w0 10 0;");
+        Due.due("hides(1, 0, 0) one lower than E", edge.hides(1, 0, 0), 0);
+        Due.due("hides(1, 1, 0) at E", edge.hides(1, 1, 0), Due.NONE);
+        Due.due("hides(0, 1, 0), the wall beside both", edge.hides(0, 1, 0), Due.NONE);
         x.move(0, 0);
         Due.due("hides(1, 0, 2) to the left", x.hides(1, 0, 2), 6);
         Due.due("hides() without witnesses", Due.house("h1;s60 0;").hides(0, 0, 0), 0);
@@ -282,6 +293,9 @@ public final class TriedTest {
         Due.due("found(1) moved", x.found(1), 500000);
         Due.due("found(7) without sounds", Due.house("h1,1;w0 0 0;").found(7), 0);
         Due.due("found(7) without witnesses", Due.house("h1,1;s60 1;").found(7), 0);
+        FourWalls one = Due.house("h1;s9 1;w0 9 0;");
+        Due.due("found(1) of one pair", one.found(1), 1000000);
+        Due.due("found(2) of one pair", one.found(2), 0);
         Due.due("found(0) with no house", new FourWalls().found(0), 0);
         Due.due("found(1) with no house", new FourWalls().found(1), Due.UNKNOWN);
         FourWalls most = Due.house("h0,0,0,0,0,0,0,0;s60 0;s60 0;s60 0;s60 0;s60 0;s60 0;w4 0 0;");
