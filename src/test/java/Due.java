@@ -4,10 +4,29 @@ final class Due {
     static final int NONE = -1, UNKNOWN = -1000000001, OUTSIDE = -1000000002, NOT = -1000000003, FULL = -1000000004;
     static final int LEAST = Integer.MIN_VALUE, MOST = Integer.MAX_VALUE;
 
+    /** No test of the project takes nearly so long (in thousandths): a call that never ends fails, too. */
+    private static final long LONGEST = 300_000;
+
     private static int wrong = 0;
     private static int asked = 0;
 
+    static {
+        Thread watch = new Thread(Due::endLate);
+        watch.setDaemon(true);
+        watch.start();
+    }
+
     private Due() {
+    }
+
+    private static void endLate() {
+        try {
+            Thread.sleep(LONGEST);
+        } catch (InterruptedException e) {
+            return;
+        }
+        System.out.println("a call does not end");
+        Runtime.getRuntime().halt(1);
     }
 
     static void due(String call, long got, long want) {
